@@ -17,6 +17,8 @@ final class CopyMoveTest {
         moveIsNeverFull();
         moveTakesVersions();
         moveInOneCollection();
+        lastPathOfAll();
+        belowWasFirst();
         rowOfExceptions();
         wrongTargets();
         CHECKS.finish();
@@ -250,6 +252,51 @@ final class CopyMoveTest {
         server.order(0, 4, 0, 0);
         CHECKS.due("move what was ordered", ShelfServer.DONE, server.move(0, 4, 22, false, 0));
         treeAt(server, 22);
+    }
+
+    private static void lastPathOfAll() {
+        ShelfServer server = new ShelfServer();
+        server.makeCollection(0, 9, 0);
+        server.makeCollection(0, 99, 0);
+        server.makeCollection(0, 1, 0);
+        server.put(0, 19, 4, NONE, 0);
+        CHECKS.due("copy up to 9999", ShelfServer.DONE, server.copy(0, 1, 999, false, 0));
+        CHECKS.due("9999 is there", 4, server.content(9999));
+        server.delete(0, 999, 0);
+        CHECKS.due("move up to 9999", ShelfServer.DONE, server.move(0, 1, 999, false, 0));
+        CHECKS.due("9999 is there again", 4, server.content(9999));
+    }
+
+    /** 2 is taken out of the order and put back, so that 21 has stood there longer. */
+    private static ShelfServer belowFirst() {
+        ShelfServer server = new ShelfServer();
+        server.makeCollection(0, 2, 0);
+        server.put(0, 21, 8, NONE, 0);
+        server.order(0, 2, 0, 0);
+        server.put(0, 3, 9, NONE, 0);
+        return server;
+    }
+
+    private static void belowWasFirst() {
+        ShelfServer server = belowFirst();
+        server.makeCollection(0, 4, 0);
+        server.makeCollection(0, 41, 0);
+        server.makeCollection(0, 411, 0);
+        CHECKS.due("21 goes with 2", ShelfServer.DONE, server.copy(0, 2, 411, true, 0));
+        CHECKS.due("as a member", 8, server.content(4111));
+        CHECKS.due("21 would be too long", ShelfServer.MISSING, server.copy(0, 2, 4111, true, 0));
+        server.lock(1, 21, false, false, 9, 0);
+        CHECKS.due("21 locks 2 as a target", ShelfServer.LOCKED, server.copy(0, 3, 2, true, 0));
+        CHECKS.due("21 locks 2 as a source", ShelfServer.LOCKED, server.move(0, 2, 5, true, 0));
+        CHECKS.due("21 fails to go", ShelfServer.PARTLY, server.delete(0, 2, 0));
+        CHECKS.due("it is the only one", 1, server.failures());
+        CHECKS.due("2 with 21 goes", ShelfServer.DONE, server.move(1, 2, 5, true, 1));
+        CHECKS.due("its lock is gone", 0, server.covering(21));
+        ShelfServer other = belowFirst();
+        other.lock(1, 21, false, false, 9, 0);
+        CHECKS.due("2 is deleted", ShelfServer.DONE, other.delete(1, 2, 1));
+        CHECKS.due("the lock of 21 too", 0, other.covering(21));
+        CHECKS.badPlace("it can't be refreshed", () -> other.refresh(1, 0, 5));
     }
 
     private static void rowOfExceptions() {

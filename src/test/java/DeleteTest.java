@@ -15,6 +15,7 @@ final class DeleteTest {
         failuresOfTheLastDelete();
         locksGo();
         newAtOldPath();
+        partlyOfAFullServer();
         wrongArguments();
         CHECKS.finish();
     }
@@ -197,6 +198,21 @@ final class DeleteTest {
         CHECKS.due("the old versions are gone", ShelfServer.MISSING, server.restore(0, 1, 0, 0));
         CHECKS.due("it is the last member", 1, server.memberAt(0, 1));
         CHECKS.due("versions begin again", 0, server.keep(1));
+    }
+
+    private static void partlyOfAFullServer() {
+        ShelfServer server = ResourceTest.fullServer();
+        server.lock(1, 72, true, false, 9, 0);
+        CHECKS.due("partly", ShelfServer.PARTLY, server.delete(0, 7, 0));
+        CHECKS.due("one went", 59, server.resources());
+        CHECKS.due("which stayed", 72, server.failureAt(0));
+        CHECKS.due("one may be made", ShelfServer.DONE, server.put(0, 71, 0, NONE, 0));
+        server.lock(2, 0, true, true, 9, 0);
+        server.lock(0, 0, true, false, 9, 0);
+        server.lock(0, 1, true, false, 9, 0);
+        CHECKS.due("all below the deep lock", ShelfServer.PARTLY, server.delete(0, 1, 12));
+        CHECKS.due("they stay", 9, server.failures());
+        CHECKS.due("full", 60, server.resources());
     }
 
     private static void wrongArguments() {

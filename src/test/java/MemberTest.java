@@ -7,6 +7,7 @@ final class MemberTest {
         members();
         places();
         ordering();
+        orderOfTheTop();
         orderIsRefused();
         wrongArguments();
         CHECKS.finish();
@@ -79,6 +80,19 @@ final class MemberTest {
         CHECKS.due("all are there", 6, server.resources());
         server.makeCollection(0, 14, 0);
         inOrder(server, "a new one", 1, 13, 12, 11, 14);
+    }
+
+    private static void orderOfTheTop() {
+        ShelfServer server = new ShelfServer();
+        server.put(0, 1, 0, NONE, 0);
+        server.put(0, 2, 0, NONE, 0);
+        server.put(0, 3, 0, NONE, 0);
+        CHECKS.due("the last to the front", ShelfServer.DONE, server.order(0, 3, 0, 0));
+        inOrder(server, "3 in front", 0, 3, 1, 2);
+        CHECKS.due("the first to the end", ShelfServer.DONE, server.order(0, 3, 2, 0));
+        inOrder(server, "3 at the end", 0, 1, 2, 3);
+        CHECKS.due("the first to the middle", ShelfServer.DONE, server.order(0, 1, 1, 0));
+        inOrder(server, "1 in the middle", 0, 2, 1, 3);
     }
 
     private static void orderIsRefused() {
