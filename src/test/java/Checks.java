@@ -1,5 +1,5 @@
 /** Counts the answers that are not the ones that are due, and tells them. */
-final class Checks {
+class Checks {
     interface Call {
         long answer();
     }
@@ -53,6 +53,22 @@ final class Checks {
                 tell(what + " threw " + got + ", due is " + want.getSimpleName());
             }
         }
+    }
+
+    /** The arguments are in their ranges: the call may throw for its state or place, but for nothing else. */
+    void inRange(String what, Call call) {
+        asked++;
+        try {
+            call.answer();
+        } catch (RuntimeException got) {
+            if (got.getClass() != IllegalStateException.class && got.getClass() != IndexOutOfBoundsException.class) {
+                tell(what + " threw " + got);
+            }
+        }
+    }
+
+    int asked() {
+        return asked;
     }
 
     void tell(String what) {
