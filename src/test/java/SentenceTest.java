@@ -7,8 +7,16 @@ final class SentenceTest {
             new CopyMoveSentences(it), new MemberSentences(it), new LockSentences(it), new VersionSentences(it),
         };
         for (Part part : parts) {
-            part.run();
+            run(part, it);
         }
         it.finish();
+    }
+
+    private static void run(Part part, Sentences it) {
+        try {
+            part.run();
+        } catch (RuntimeException thrown) {
+            it.tell("a call that should answer threw " + thrown);
+        }
     }
 }

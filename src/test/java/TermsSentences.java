@@ -352,6 +352,24 @@ final class TermsSentences extends Part {
         it.due("the lock of what was moved", 0, over.covering(111));
         it.due("it is not at the new path", 0, over.covering(41));
         it.due("none is left to end", 0, over.pass(1000));
+        collectionsGoWithTheirLocks();
+    }
+
+    private void collectionsGoWithTheirLocks() {
+        ShelfServer server = tree();
+        exclusiveDeep(server, 1, 11);
+        exclusiveDeep(server, 1, 2);
+        it.due("delete 11", DONE, server.delete(1, 11, MOST));
+        it.due("its lock", 0, server.covering(11));
+        it.due("its lock below it", 0, server.covering(119));
+        it.due("copy over 2", DONE, server.copy(1, 1, 2, true, MOST));
+        it.due("the lock of 2", 0, server.covering(2));
+        it.due("the lock of 2 below it", 0, server.covering(22));
+        exclusiveDeep(server, 1, 2);
+        it.due("move 2", DONE, server.move(1, 2, 4, false, MOST));
+        it.due("its lock at the old path", 0, server.covering(2));
+        it.due("its lock at the new path", 0, server.covering(4));
+        it.due("no lock is left", 0, server.pass(1000));
     }
 
     private void makes() {
