@@ -148,11 +148,11 @@ public final class ShelfServer {
 
     public int memberAt(int path, int place) throws IllegalArgumentException, IndexOutOfBoundsException {
         requirePath(path);
-        int index = shelf.memberIndex(path, place);
-        if (index < 0 || index >= shelf.count) {
+        int member = shelf.pathAt(shelf.memberIndex(path, place));
+        if (member == NONE) {
             throw new IndexOutOfBoundsException("no such member");
         }
-        return shelf.row[index].path;
+        return member;
     }
 
     public int order(int client, int path, int place, int tokens) throws IllegalArgumentException {
@@ -249,13 +249,14 @@ public final class ShelfServer {
         requireNotNegative(version);
         requireNotNegative(tokens);
         Resource file = shelf.findFile(path);
-        if (file == null || !file.hasVersion(version)) {
+        int kept = file == null ? NONE : file.versionAt(version);
+        if (file == null || kept == NONE) {
             return MISSING;
         }
         if (!locks.allows(client, path, tokens)) {
             return LOCKED;
         }
-        file.takeVersion(version);
+        file.content = kept;
         return DONE;
     }
 
@@ -356,7 +357,7 @@ public final class ShelfServer {
     /** Whether a client may change each resource of a tree; true if there is none. */
     private boolean allowsTree(int client, int root, int tokens) {
         for (int i = 0; i < shelf.count; i++) {
-            int path = shelf.row[i].path;
+            int path = shelf.pathAt(i);
             if (isIn(root, path) && !locks.allows(client, path, tokens)) {
                 return false;
             }
@@ -411,7 +412,7 @@ public final class ShelfServer {
 
     private void noteFailures(int client, int root, int tokens) {
         for (int i = 0; i < shelf.count; i++) {
-            int path = shelf.row[i].path;
+            int path = shelf.pathAt(i);
             if (isAbove(root, path) && !locks.allows(client, path, tokens)) {
                 insertFailure(path);
             }
@@ -445,8 +446,8 @@ public final class ShelfServer {
 
     private void removeMarked() {
         for (int i = 0; i < shelf.count; i++) {
-            if (shelf.row[i].isGoing) {
-                locks.dropAt(shelf.row[i].path);
+            if (shelf.isGoingAt(i)) {
+                locks.dropAt(shelf.pathAt(i));
             }
         }
         shelf.removeMarked();
@@ -454,8 +455,9 @@ public final class ShelfServer {
 
     private void dropLocksOfTree(int root) {
         for (int i = 0; i < shelf.count; i++) {
-            if (isIn(root, shelf.row[i].path)) {
-                locks.dropAt(shelf.row[i].path);
+            int path = shelf.pathAt(i);
+            if (isIn(root, path)) {
+                locks.dropAt(path);
             }
         }
     }
@@ -481,8 +483,9 @@ public final class ShelfServer {
             versionCount = 0;
         }
 
-        private boolean hasVersion(int version) {
-            return version >= 0 && version < versionCount && version < versions.length;
+        /** The content that a version has; NONE if there is no such version. */
+        private int versionAt(int version) {
+            return version < 0 || version >= versionCount || version >= versions.length ? NONE : versions[version];
         }
 
         private int addVersion() {
@@ -492,12 +495,6 @@ public final class ShelfServer {
             versions[versionCount] = content;
             versionCount++;
             return versionCount - 1;
-        }
-
-        private void takeVersion(int version) {
-            if (hasVersion(version)) {
-                content = versions[version];
-            }
         }
     }
 
@@ -519,7 +516,7 @@ public final class ShelfServer {
         }
 
         private int indexOf(int path) {
-            for (int i = 0; i < count; i++) {
+            for (int i = 0; i < count && i < row.length; i++) {
                 if (row[i].path == path) {
                     return i;
                 }
@@ -530,7 +527,16 @@ public final class ShelfServer {
         /** The resource at a path; null for none, and for the top. */
         private Resource find(int path) {
             int index = indexOf(path);
-            return index < 0 ? null : row[index];
+            return index < 0 || index >= row.length ? null : row[index];
+        }
+
+        /** The path of the resource at an index of the row; NONE if none is there. */
+        private int pathAt(int index) {
+            return index < 0 || index >= count || index >= row.length ? NONE : row[index].path;
+        }
+
+        private boolean isGoingAt(int index) {
+            return index >= 0 && index < count && index < row.length && row[index].isGoing;
         }
 
         private Resource findFile(int path) {
@@ -560,7 +566,7 @@ public final class ShelfServer {
 
         private int treeSize(int root) {
             int size = 0;
-            for (int i = 0; i < count; i++) {
+            for (int i = 0; i < count && i < row.length; i++) {
                 if (isIn(root, row[i].path)) {
                     size++;
                 }
@@ -570,7 +576,7 @@ public final class ShelfServer {
 
         /** Whether no path of the tree at from would be too long in the tree at to. */
         private boolean fits(int from, int to) {
-            for (int i = 0; i < count; i++) {
+            for (int i = 0; i < count && i < row.length; i++) {
                 if (isIn(from, row[i].path) && moved(row[i].path, from, to) > LAST_PATH) {
                     return false;
                 }
@@ -580,7 +586,7 @@ public final class ShelfServer {
 
         private void appendCopyOfTree(int from, int to) {
             int end = count;
-            for (int i = 0; i < end; i++) {
+            for (int i = 0; i < end && i < row.length; i++) {
                 Resource one = row[i];
                 if (isIn(from, one.path)) {
                     append(moved(one.path, from, to), one.kind, one.content);
@@ -589,7 +595,7 @@ public final class ShelfServer {
         }
 
         private void renameTree(int from, int to) {
-            for (int i = 0; i < count; i++) {
+            for (int i = 0; i < count && i < row.length; i++) {
                 if (isIn(from, row[i].path)) {
                     row[i].path = moved(row[i].path, from, to);
                 }
@@ -598,13 +604,13 @@ public final class ShelfServer {
         }
 
         private void markTree(int root) {
-            for (int i = 0; i < count; i++) {
+            for (int i = 0; i < count && i < row.length; i++) {
                 row[i].isGoing = isIn(root, row[i].path);
             }
         }
 
         private void spareUpFrom(int path) {
-            for (int i = 0; i < count; i++) {
+            for (int i = 0; i < count && i < row.length; i++) {
                 if (isIn(row[i].path, path)) {
                     row[i].isGoing = false;
                 }
@@ -613,7 +619,7 @@ public final class ShelfServer {
 
         private void removeMarked() {
             int kept = 0;
-            for (int i = 0; i < count; i++) {
+            for (int i = 0; i < count && i < row.length; i++) {
                 Resource one = row[i];
                 if (!one.isGoing) {
                     row[i] = row[kept];
@@ -626,7 +632,7 @@ public final class ShelfServer {
 
         private int memberCount(int path) {
             int members = 0;
-            for (int i = 0; i < count; i++) {
+            for (int i = 0; i < count && i < row.length; i++) {
                 if (parentOf(row[i].path) == path) {
                     members++;
                 }
@@ -637,7 +643,7 @@ public final class ShelfServer {
         /** Where in the row a member stands; NONE if there are not so many. */
         private int memberIndex(int path, int place) {
             int ahead = 0;
-            for (int i = 0; i < count; i++) {
+            for (int i = 0; i < count && i < row.length; i++) {
                 if (parentOf(row[i].path) == path) {
                     if (ahead == place) {
                         return i;
@@ -732,7 +738,8 @@ public final class ShelfServer {
             }
             int given = over & tokens;
             for (int token = 0; token < count; token++) {
-                if ((given & 1 << token) != 0 && row[token].client == client) {
+                Lock lock = find(token);
+                if (lock != null && lock.client == client && (given & 1 << token) != 0) {
                     return true;
                 }
             }
